@@ -1605,7 +1605,7 @@ public final class Chainwork {
         /** The least order of the row, from a number on, in which the line does not hold. */
         int firstFailing(int[] row, Law line, int from) {
             look(line, null);
-            for (int order = nextIn(row, from); order != NONE && order < limit; order = nextIn(row, order + 1)) {
+            for (int order = nextIn(row, from); order < limit; order = nextIn(row, order + 1)) {
                 if (failsIn(order)) {
                     return order;
                 }
@@ -1624,7 +1624,10 @@ public final class Chainwork {
             }
         }
 
-        /** The least order of the row from a number on; most words are empty, so they are passed as one. */
+        /**
+         * The least order of the row from a number on, or ORDERS, which is no order. Most words are
+         * empty, so they are passed as one.
+         */
         private int nextIn(int[] row, int from) {
             int words = wordsInUse();
             for (int order = Math.max(from, 0); order >> 5 < words; order++) {
@@ -1636,7 +1639,7 @@ public final class Chainwork {
                     order |= 31;
                 }
             }
-            return NONE;
+            return ORDERS;
         }
 
         private static boolean isIn(int[] row, int order) {
@@ -1652,13 +1655,12 @@ public final class Chainwork {
             }
         }
 
-        /** Goes on from the orders of some signs to those with one more; way 0 stays in its place, so it is last. */
+        /** Goes on from the orders of some signs to those with one more; always 0, its way 0, suits all directions. */
         private void spread(Sign sign) {
-            for (int way = 15; way >= 0; way--) {
-                boolean isAllowed = sign.allows(way);
-                int last = isAllowed || way == 0 ? limit : 0;
-                for (int order = nextIn(obeying, 0); order != NONE && order < last; order = nextIn(obeying, order + 1)) {
-                    put(obeying, order + way * limit, isAllowed);
+            for (int way = 1; way < 16; way++) {
+                int last = sign.allows(way) ? limit : 0;
+                for (int order = nextIn(obeying, 0); order < last; order = nextIn(obeying, order + 1)) {
+                    put(obeying, order + way * limit, true);
                 }
             }
             limit *= 16;
@@ -1687,7 +1689,7 @@ public final class Chainwork {
 
         private void strike(int[] row, Law line, Law otherLine) {
             look(line, otherLine);
-            for (int order = nextIn(row, 0); order != NONE && order < limit; order = nextIn(row, order + 1)) {
+            for (int order = nextIn(row, 0); order < limit; order = nextIn(row, order + 1)) {
                 if (failsIn(order)) {
                     put(row, order, false);
                 }
@@ -1704,7 +1706,6 @@ public final class Chainwork {
                 digits |= (mask >> i & 1) != 0 ? 15 << 4 * i : 0;
             }
             clear(isKnown);
-            clear(isFailing);
         }
 
         private boolean failsIn(int order) {

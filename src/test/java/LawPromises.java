@@ -218,6 +218,10 @@ public final class LawPromises {
         Due.same("12: an EQUAL one needs no use of it", thrownOrEnd(work), -2);
         Due.same("12: with b in both terms", endAbout(work, "b", "b"), Chainwork.EQUAL);
         Due.text("12: the EQUAL law", Due.output(work, work.writeLaw(31)), "b=p(b,b);b<b");
+        Due.assume(work, "r", "b");
+        Due.same("12: the greatest name", work.end(99, 1), Chainwork.EQUAL);
+        Due.assume(work, "b", "r");
+        Due.same("12: the least name", work.end(0, 1), Chainwork.EQUAL);
     }
 
     /** The assumption a<b is open, but a stands in neither line of chain 1. */
@@ -367,7 +371,8 @@ public final class LawPromises {
         Due.text("14: the law", Due.output(work, work.writeLaw(10)), "p(a,b)<b");
         Due.same("14: it is proved", work.lawAt(10, 1), 1);
         Due.same("14: on both", work.lawAt(10, 3), 2);
-        Due.same("14: the other way round", work.cases(11, 2, 1), Chainwork.LESS);
+        Due.same("14: the other way round", work.cases(99, 2, 1), Chainwork.LESS);
+        Due.same("14: the least name", work.cases(0, 2, 1), Chainwork.LESS);
         Due.law(work, 3, "p(a,b)", Chainwork.EQUAL, "b");
         Due.condition(work, 3, "b", "a");
         Due.same("14: EQUAL", work.cases(12, 1, 3), Chainwork.EQUAL);
@@ -440,9 +445,10 @@ public final class LawPromises {
         Due.same("15: by an EQUAL one", work.across(22, 2, 7, true), 5);
         Due.text("15: it is LESS", Due.output(work, work.writeLaw(22)), "r<q(d)");
         Due.same("15: LESS", work.lawAt(22, 0), Chainwork.LESS);
-        Due.same("15: by a proved one", work.across(23, 22, 7, true), 6);
-        Due.text("15: back again", Due.output(work, work.writeLaw(23)), "d<q(r)");
-        Due.same("15: on that and the first one", work.lawAt(23, 3), 2);
+        Due.same("15: by a proved one", work.across(99, 22, 7, true), 6);
+        Due.text("15: back again", Due.output(work, work.writeLaw(99)), "d<q(r)");
+        Due.same("15: on that and the first one", work.lawAt(99, 3), 2);
+        Due.same("15: the least name", work.across(0, 22, 7, true), 7);
         // the two sides differ: the left line has b twice
         Due.read(work, 4, "p(a,b)");
         Due.read(work, 5, "b");
@@ -488,7 +494,11 @@ public final class LawPromises {
         Due.same("15: it has 40", Due.output(work, work.writeLaw(22)).replaceAll("[(),<d]", "").length(), 39);
         Due.law(work, 6, "q(" + nest + ")", Chainwork.LESS, "d");
         Due.thrown("15: 41 letters", STATE, () -> work.across(23, 6, 7, false));
-        for (int i = 0; i < 12; i++) {
+        Due.read(work, 4, "p(a,b)");
+        work.equivalence(9, 0, 4, 0, 1);
+        Due.law(work, 10, "d", Chainwork.LESS, "q(" + nest + ")");
+        Due.thrown("15: 41 letters in the right term", STATE, () -> work.across(23, 10, 9, false));
+        for (int i = 0; i < 11; i++) {
             work.law(40 + i, 0, 0, 0);
         }
         Due.same("15: 20 laws", work.laws(), 20);

@@ -13,6 +13,7 @@ public final class OrderPromises {
         promise46Equivalences();
         promise46Changes();
         promise47Fails();
+        promise47Neighbours();
         promise47Signs();
         promise47Refused();
         promise48Value();
@@ -73,6 +74,15 @@ public final class OrderPromises {
         }
         Due.law(four, 1, "s", Chainwork.LESS, "p");
         Due.same("46: 16 without those with s 1 and p 0", four.orders(), 12);
+        Due.law(four, 2, "a", Chainwork.LESS, "s");
+        Due.same("46: s alone", four.orders(), 4);
+        four.undo();
+        Due.law(four, 2, "q", Chainwork.LESS, "a");
+        Due.same("46: q alone", four.orders(), 6);
+        Due.law(four, 3, "r", Chainwork.LESS, "a");
+        Due.same("46: r alone", four.orders(), 3);
+        Due.law(four, 4, "p", Chainwork.LESS, "a");
+        Due.same("46: p alone", four.orders(), 1);
     }
 
     private static void promise46Conditions() {
@@ -159,6 +169,23 @@ public final class OrderPromises {
         Due.same("47: c and a", work.fails(4, 1, 2, 9), 10);
         Due.assume(work, "p(a,b)", "p(b,a)");
         Due.same("47: assumptions do not count", work.fails(0, 1, 1, 0), 10);
+    }
+
+    /** Orders one beside the other: the first one of each pair obeys, and the line holds in it. */
+    private static void promise47Neighbours() {
+        Chainwork work = new Chainwork();
+        work.sign(0, 0, 0);
+        work.sign(0, 0, 0);
+        Due.read(work, 0, "p");
+        Due.read(work, 1, "a");
+        Due.read(work, 2, "q");
+        Due.same("47: p is 1", work.fails(0, 1, 1, 0), 1);
+        Due.same("47: q is 0, p is 1", work.fails(0, 1, 2, 0), 1);
+        Due.same("47: q is 1, p is 0", work.fails(2, 1, 0, 0), 16);
+        Due.same("47: both are 0", work.fails(1, 1, 0, 0), 0);
+        Due.same("47: p is 0, q is 1", work.fails(1, 1, 0, 1), 16);
+        Due.same("47: not the same", work.fails(0, 0, 2, 2), 16);
+        Due.same("47: all fail", work.fails(0, 0, 1, 17), 17);
     }
 
     private static void promise47Signs() {

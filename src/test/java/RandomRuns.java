@@ -443,7 +443,11 @@ public final class RandomRuns {
     }
 
     private void small() {
-        go("fails", number(10), number(2), number(10), number(3) == 0 ? number(65536) : number(300));
+        put(0, tree(number(3)));
+        put(1, tree(number(3)));
+        for (int i = 0; i < 5; i++) {
+            go("fails", number(i < 3 ? 2 : 10), number(2), number(2), number(3) == 0 ? number(65536) : number(300));
+        }
         for (int i = 0; i < 3; i++) {
             go("value", number(65536), number(10), number(16));
         }

@@ -99,11 +99,39 @@ public final class TextPromises {
         Due.law(work, 9, "a", Chainwork.LESS, "b");
         work.restore(1);
         Due.text("24: changes do not reach the image", told(work), before);
+        promise24OtherSigns();
         Due.type(work, "abc");
         work.write(0);
         work.restore(1);
         Due.same("24: the text is no part of it", work.clearText(), 3);
         Due.same("24: nor is the output", work.outputAt(0), 'p');
+    }
+
+    /** The image has other signs and equivalences in the same places than the work has. */
+    private static void promise24OtherSigns() {
+        Chainwork work = new Chainwork();
+        work.variable(0, 0);
+        work.variable(1, 1);
+        work.sign(1, 1, 0);
+        work.equivalence(5, 0, 1, 0, 1);
+        work.image(0);
+        work.undo();
+        work.undo();
+        work.sign(2, 0, 2);
+        work.equivalence(6, 0, 0, 1, 1);
+        work.image(1);
+        work.restore(0);
+        Due.same("24: the image's sign", work.term(2, 0, 0, 99), 2);
+        Due.same("24: its direction", work.direction(2, 1), Chainwork.FALLS);
+        Due.thrown("24: the image's equivalence", STATE, () -> work.law(5, 0, 0, 0));
+        Due.same("24: not the other one", work.law(6, 0, 0, 0), 1);
+        work.restore(1);
+        Due.same("24: the other sign", work.term(2, 0, 0, 1), 3);
+        Due.same("24: its second direction", work.direction(2, 2), Chainwork.MIXED);
+        Due.thrown("24: the other equivalence", STATE, () -> work.law(6, 0, 0, 0));
+        Due.same("24: orders of the other sign", work.orders(), 9);
+        work.restore(0);
+        Due.same("24: orders of the image's sign", work.orders(), 3);
     }
 
     private static void promise25Undo() {
