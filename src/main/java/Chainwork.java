@@ -1708,26 +1708,27 @@ public final class Chainwork {
             clear(isKnown);
         }
 
+        /** One line fails where it does not hold; two fail where just one of them does not. */
         private boolean failsIn(int order) {
             int key = order & digits;
             if (!isIn(isKnown, key)) {
-                int failing = failingValues(one, key);
-                failing ^= other == null ? 0 : failingValues(other, key);
+                int failing = 0;
+                for (int i = 0; i < 2; i++) {
+                    Law line = i == 0 ? one : other;
+                    if (line != null) {
+                        int left = valuesOf(line.left, key);
+                        int right = valuesOf(line.right, key);
+                        int own = line.relation == EQUAL ? left ^ right : left & ~right;
+                        if (line.hasCondition()) {
+                            own &= ~valuesOf(line.first, key) | valuesOf(line.second, key);
+                        }
+                        failing ^= own;
+                    }
+                }
                 put(isKnown, key, true);
                 put(isFailing, key, failing != 0);
             }
             return isIn(isFailing, key);
-        }
-
-        /** The rows of values with which the line does not hold, as bits. */
-        private int failingValues(Law line, int order) {
-            int left = valuesOf(line.left, order);
-            int right = valuesOf(line.right, order);
-            int failing = line.relation == EQUAL ? left ^ right : left & ~right;
-            if (line.hasCondition()) {
-                failing &= ~valuesOf(line.first, order) | valuesOf(line.second, order);
-            }
-            return failing & ALL_VALUES;
         }
 
         /** The values of a term for all 16 rows of values at once, from its last node on. */
