@@ -16,6 +16,7 @@ public final class ChainPromises {
         promise18FirstWay();
         promise18Directions();
         promise18Conditions();
+        promise18GreatConditions();
         promise18Refused();
         promise19Turn();
         promise20Join();
@@ -189,6 +190,35 @@ public final class ChainPromises {
         Due.same("18: bound by the next line", Due.step(work, 2, 6, "q(p(r,r))"), Chainwork.EQUAL);
         Due.read(work, 8, "q(p(p(b,r),r))");
         Due.thrown("18: not with another term", ARGUMENT, () -> work.step(2, 6, 8));
+    }
+
+    /** A condition may be far greater than any term that is kept: here of 20 times 37 letters and 19 more. */
+    private static void promise18GreatConditions() {
+        Chainwork work = work();
+        String leaves = "a";
+        for (int i = 0; i < 19; i++) {
+            leaves = "p(a," + leaves + ")";
+        }
+        String great = "q(".repeat(36) + "r" + ")".repeat(36);
+        Due.law(work, 1, "p(a,b)", Chainwork.EQUAL, "b");
+        Due.condition(work, 1, leaves, "b");
+        Due.begin(work, 0, "p(" + great + ",c)");
+        Due.read(work, 8, "c");
+        Due.thrown("18: not granted", ARGUMENT, () -> work.step(0, 1, 8));
+        Due.law(work, 5, "p(" + great + ",a)", Chainwork.LESS, "b");
+        Due.law(work, 4, "p(b,p(b,p(c,d)))", Chainwork.EQUAL, "a");
+        Due.same("18: granted", Due.step(work, 0, 1, "c"), Chainwork.EQUAL);
+        work.lemma(9, 0);
+        Due.yes("18: by law 4", work.rests(9, 4));
+        Due.no("18: not by law 5", work.rests(9, 5));
+        Due.condition(work, 5, "a", "a");
+        Due.same("18: still right", work.wrong(0), Chainwork.NONE);
+        Due.law(work, 2, "p(a,b)", Chainwork.EQUAL, "b");
+        Due.condition(work, 2, leaves, leaves);
+        Due.begin(work, 1, "p(" + great + ",c)");
+        Due.same("18: equal terms of that size", Due.step(work, 1, 2, "c"), Chainwork.EQUAL);
+        work.lemma(10, 1);
+        Due.same("18: need no law", work.lawAt(10, 3), 1);
     }
 
     private static void promise18Refused() {
