@@ -2,8 +2,18 @@
 final class Due {
     private static int looked = 0;
     private static int wrong = 0;
+    private static int lookedBefore = -1;
 
     private Due() { }
+
+    /** Something must have been looked at since the last call of this. */
+    static void some(String what) {
+        if (looked == lookedBefore) {
+            wrong++;
+            System.out.println(what + " has no test");
+        }
+        lookedBefore = looked;
+    }
 
     static void same(String what, double got, double want) {
         looked++;
