@@ -285,6 +285,13 @@ final class BookSentences extends Sentence {
         }, "p(a)<a");
         refuses(ARGUMENT, FURNISHED, work -> work.across(50, 7, 40, true));
 
+        writes(FURNISHED, work -> {
+            work.across(50, 7, 40, false);
+            work.across(51, 3, 40, true);
+            work.across(52, 51, 40, false);
+            return work.writeLaw(52);
+        }, "p(p(a))<p(a)");
+
         named("Promise 15", "Returns how many laws there are then.");
         answers(FURNISHED, work -> work.across(50, 7, 40, false), 6);
         answers(NINETEEN_LAWS, work -> work.across(50, 7, 40, false), 20);

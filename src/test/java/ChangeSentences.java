@@ -18,6 +18,7 @@ final class ChangeSentences extends Sentence {
         refusedCallsAreNoChanges();
         eightChanges();
         whatIsKept();
+        whatIsKeptOfOtherWorks();
         whatIsNotKept();
         exceptionsByKind();
         calls512();
@@ -265,6 +266,49 @@ final class ChangeSentences extends Sentence {
             }));
             keepsAll(then(READABLE, change), undoneRestore);
         }
+    }
+
+    private static void whatIsKeptOfOtherWorks() {
+        named(SECTION, "an image keeps signs, term registers, laws, equivalences, assumptions and chains");
+        Calls first = work -> {
+            work.sign(1, FALLS, 0);
+            work.sign(0, 0, 0);
+            Due.law(work, 0, "p(a)", EQUAL, "q");
+            Due.law(work, 99, "p(a)", LESS, "a");
+            work.equivalence(50, 8, 9, 9, 8);
+            Due.assume(work, "a", "p(a)");
+            Due.begin(work, 3, "p(a)");
+            Due.line(work, 3, 0, "q");
+        };
+        Calls other = work -> {
+            work.sign(2, MIXED, RISES);
+            work.sign(1, MIXED, 0);
+            Due.law(work, 0, "p(a,b)", LESS, "q(a)");
+            work.variable(1, 1);
+            work.equivalence(50, 8, 8, 1, 1);
+            Due.assume(work, "p(a,a)", "a");
+            Due.begin(work, 3, "p(a,b)");
+            Due.line(work, 3, 0, "b");
+        };
+        Calls both = work -> {
+            work.image(1);
+            first.on(work);
+            work.orders();
+            work.image(0);
+            work.restore(1);
+            other.on(work);
+            work.orders();
+        };
+        keepsAll(first, then(both, work -> work.restore(0)));
+        keepsAll(NOTHING, then(both, work -> work.restore(1)));
+        keepsAll(other, then(both, work -> {
+            work.restore(0);
+            work.orders();
+            work.undo();
+        }));
+        answers(then(both, work -> work.restore(0)), work -> work.across(51, 99, 50, true), 3);
+        answers(then(both, work -> work.restore(0)), work -> Due.read(work, 0, "p(q)") + 10 * work.direction(0, 1), 2 + 10 * FALLS);
+        answers(both, work -> Due.read(work, 0, "p(q(a),a)"), 4);
     }
 
     /** What an image keeps is the same in both. */

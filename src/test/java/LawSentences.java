@@ -127,7 +127,15 @@ final class LawSentences extends Sentence {
         refuses(STATE, FURNISHED, work -> work.condition(7, 8, 8));
         refuses(STATE, FURNISHED, work -> work.condition(7, 0, 0));
         fails(FURNISHED, work -> work.condition(3, 0, 0));
-        refuses(STATE, then(FURNISHED, work -> work.lemma(50, 0)), work -> work.condition(3, 0, 0));
+        for (int number : new int[] {0, 50, 99}) {
+            int name = number;
+            refuses(STATE, then(FURNISHED, work -> work.lemma(name, 0)), work -> work.condition(3, 0, 0));
+        }
+        Calls undone = then(FURNISHED, work -> {
+            work.lemma(50, 0);
+            work.undo();
+        });
+        fails(undone, work -> work.condition(3, 0, 0));
 
         named("Promise 8", "Throws `IllegalArgumentException` if a variable of the condition stands in none of its terms");
         refuses(ARGUMENT, FURNISHED, work -> work.condition(31, 8, 0));

@@ -43,6 +43,31 @@ final class OrderSentences extends Sentence {
         answers(FURNISHED, Chainwork::orders, FURNISHED_ORDERS.length);
         answers(then(FURNISHED, work -> work.law(50, 5, LESS, 0)), Chainwork::orders, 3);
 
+        // what is told later counts as well, and what is told no more does not
+        answers(FURNISHED, work -> work.orders() + 10 * work.sign(0, 0, 0) + 100 * work.orders(), 6 + 30 + 1200);
+        answers(FURNISHED, work -> work.orders() + 10 * work.law(50, 5, LESS, 0) + 100 * work.orders(), 6 + 60 + 300);
+        answers(FURNISHED, work -> work.orders() + 10 * work.equivalence(50, 0, 1, 1, 0) + 100 * work.orders(), 6 + 20);
+        answers(then(FURNISHED, work -> work.law(50, 5, LESS, 0)), work -> {
+            int before = work.orders();
+            work.condition(50, 5, 5);
+            return before + 10 * work.orders();
+        }, 33);
+        answers(then(FURNISHED, work -> work.law(50, 5, LESS, 0)), work -> {
+            int before = work.orders();
+            work.condition(50, 5, 0);
+            return before + 10 * work.orders();
+        }, 63);
+        answers(then(FURNISHED, work -> work.law(50, 5, LESS, 0)), work -> {
+            int before = work.orders();
+            work.undo();
+            return before + 10 * work.orders();
+        }, 63);
+        answers(then(FURNISHED, work -> work.law(50, 5, LESS, 0)), work -> {
+            int before = work.orders();
+            work.restore(0);
+            return before + 10 * work.orders();
+        }, 63);
+
         named("Promise 46", "Returns how many there are.");
         answers(NOTHING, Chainwork::orders, 1);
         answers(FOUR_FREE_SIGNS, Chainwork::orders, 65536);
@@ -119,6 +144,13 @@ final class OrderSentences extends Sentence {
         answers(FURNISHED, work -> work.value(14 + 512, 2, 0) * 2 + work.value(14 + 512, 5, 0), 0);
         answers(FURNISHED, work -> work.value(12 + 1, 2, 0) * 2 + work.value(12 + 1, 2, 1), 2);
         answers(FURNISHED, work -> work.value(61440 + 2, 2, 1), 1);
+        answers(then(FURNISHED, read(9, "q(r,b)")), work -> work.value(14 * 256 + 10 * 16, 9, 2), 0);
+        answers(then(FURNISHED, read(9, "q(r,b)")), work -> work.value(14 * 256 + 10 * 16, 9, 3), 0);
+        for (int number = 0; number < 4; number++) {
+            int values = number;
+            answers(FURNISHED, work -> work.value(12 + 10 * 16, 7, values), 0);
+            answers(FURNISHED, work -> work.value(12 + 2 + 10 * 16, 7, values), values & 1);
+        }
         answers(FURNISHED, work -> work.value(61440 + 14 * 256, 5, 0), 0);
         answers(NOTHING, work -> work.variable(0, 0) + work.value(65535, 0, 0), 1);
 
@@ -399,5 +431,27 @@ final class OrderSentences extends Sentence {
             work.equivalence(1, 2, 3, 1, 0);
         }), 1);
         ordersAre(then(rises, work -> work.assume(2, 0)), 0, 3);
+        // a sign that stands in one term of the condition alone: p(a)=a where a < q, or where q < a
+        Calls other = then(unary, work -> {
+            work.sign(0, 0, 0);
+            work.variable(0, 0);
+            work.variable(1, 1);
+            work.term(4, 1, 0, 0);
+            work.law(1, 2, EQUAL, 0);
+        });
+        ordersAre(other, 2, 18);
+        ordersAre(then(other, work -> work.condition(1, 0, 4)), 0, 2, 18);
+        ordersAre(then(other, work -> work.condition(1, 4, 0)), 2, 18, 19);
+        for (int number = 0; number < 4; number++) {
+            int sign = number;
+            Calls variables = then(FOUR_FREE_SIGNS, work -> work.variable(9, 0));
+            answers(then(variables, work -> work.law(0, sign, EQUAL, 9)), Chainwork::orders, 4096);
+            answers(then(variables, work -> work.law(99, 9, EQUAL, sign)), Chainwork::orders, 4096);
+            answers(then(variables, work -> work.law(0, sign, LESS, 9)), Chainwork::orders, 16384);
+            answers(then(variables, work -> work.equivalence(0, sign, 9, 9, 9)), Chainwork::orders, 16384);
+            answers(then(variables, work -> work.equivalence(0, 9, 9, 9, sign)), Chainwork::orders, 16384);
+            answers(FOUR_FREE_SIGNS, work -> work.law(0, sign, EQUAL, 3 - sign) * 0 + work.orders(), 4096);
+            answers(FOUR_FREE_SIGNS, work -> work.law(0, sign, EQUAL, (sign + 1) % 4) * 0 + work.orders(), 4096);
+        }
     }
 }

@@ -32,6 +32,15 @@ final class SearchSentences extends Sentence {
         Due.read(work, 3, "p(s(s(s(s(r)))),p(s(s(s(s(r)))),s(s(s(s(r))))))");
     });
 
+    /** Law 5: r = p(r,r), by which a term becomes greater by 2. */
+    private static final Calls GROWING = work -> {
+        work.sign(2, RISES, RISES);
+        work.sign(0, 0, 0);
+        work.sign(0, 0, 0);
+        work.sign(1, RISES, 0);
+        Due.law(work, 5, "r", EQUAL, "p(r,r)");
+    };
+
     private SearchSentences() { }
 
     static void all() {
@@ -49,6 +58,22 @@ final class SearchSentences extends Sentence {
     private static void arguments() {
         named("Promise 23", "Makes a chain the told chain from a term to another one (section 7).");
         answers(LADDER, work -> work.find(2, 0, 2, LESS, 4) + 10 * work.lines(2), 32);
+        for (int number = 0; number < 5; number++) {
+            int line = number;
+            writes(LADDER, work -> {
+                work.find(2, 0, 4, LESS, 4);
+                work.take(2, line, 9);
+                return work.write(9);
+            }, tower(line + 1));
+        }
+        Calls amongMany = then(THOUSAND_AND_ONE, work -> work.find(2, 0, 2, LESS, 4));
+        answers(amongMany, work -> work.relation(2), LESS);
+        answers(amongMany, work -> work.stepAt(2, 1, 0) * 1000 + work.stepAt(2, 2, 0) * 100 + work.stepAt(2, 3, 0) * 10
+            + work.stepAt(2, 4, 0) - 10, 2220);
+        writes(amongMany, work -> {
+            work.take(2, 2, 9);
+            return work.write(9);
+        }, "p(s(r),p(s(r),q))");
 
         named("Promise 23", "`chain`: 0 to 3");
         range(INDEX, FURNISHED, (work, chain) -> work.find(chain, 0, 2, LESS, 4), 0, 1, 3, 1);
@@ -109,6 +134,16 @@ final class SearchSentences extends Sentence {
         refuses(ELEMENT, THOUSAND, work -> work.find(0, 0, 1, LESS, 4));
         refuses(ELEMENT, THOUSAND_AND_ONE, work -> work.find(0, 0, 1, LESS, 3));
         refuses(STATE, THOUSAND_AND_ONE, work -> work.find(0, 0, 1, LESS, 4));
+        // a search that was refused leaves nothing for the next one
+        Calls refused = then(THOUSAND_AND_ONE, work -> {
+            try {
+                work.find(0, 0, 1, LESS, 4);
+            } catch (IllegalStateException e) {
+                work.turn(0);
+            }
+        });
+        answers(refused, work -> work.find(0, 0, 3, LESS, 4) + 10 * work.find(1, 1, 1, EQUAL, 0), 3);
+        refuses(ELEMENT, refused, work -> work.find(0, 0, 1, LESS, 3));
         // the other term is the 1000th one, or it is the 1001st one itself
         answers(THOUSAND_AND_ONE, work -> work.find(0, 0, 3, LESS, 4), 3);
         answers(THOUSAND_AND_ONE, work -> work.find(0, 0, 2, LESS, 4), 4);
@@ -172,12 +207,32 @@ final class SearchSentences extends Sentence {
         refuses(ELEMENT, withTowers(27, 26), work -> work.find(0, 8, 9, MORE, 4));
         refuses(ELEMENT, withTowers(40, 39), work -> work.find(0, 8, 9, MORE, 4));
         answers(withTowers(40, 40), work -> work.find(0, 8, 9, EQUAL, 0), 0);
+        // what stands ahead of the place and behind it counts, too
+        growsWithin("p(r,T)", 21);
+        growsWithin("p(T,r)", 21);
+        growsWithin("p(p(c,r),T)", 19);
+        growsWithin("p(T,p(r,c))", 19);
         // what would be made in one step is too great, though in another way it is not
         Calls around = then(withTowers(25, 25), work -> {
             work.law(8, 2, EQUAL, 0);
             Due.read(work, 9, tower(23));
         });
         answers(around, work -> work.find(0, 8, 9, LESS, 4), 1);
+    }
+
+    /** In a term whose T is of this size, r can still become p(r,r); if T is greater by 1, it can't. */
+    private static void growsWithin(String term, int size) {
+        answers(grown(term, size), work -> work.find(0, 8, 9, EQUAL, 1) * 100 + work.termAt(9, 0), 125);
+        answers(grown(term, size + 1), work -> work.termAt(9, 0), 26);
+        refuses(ELEMENT, grown(term, size + 1), work -> work.find(0, 8, 9, EQUAL, 4));
+    }
+
+    private static Calls grown(String term, int size) {
+        String from = term.replace("T", "s(".repeat(size - 1) + "c" + ")".repeat(size - 1));
+        return then(GROWING, work -> {
+            Due.read(work, 8, from);
+            Due.read(work, 9, from.replace("r", "p(r,r)"));
+        });
     }
 
     private static Calls withTowers(int from, int to) {

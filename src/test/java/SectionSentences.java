@@ -280,6 +280,13 @@ final class SectionSentences extends Sentence {
         Calls assumed = then(LIMITED, work -> Due.assume(work, "r", "p(s,s)"));
         stepIs(assumed, "p(r,s)", 10, "q(s)", LESS);
         stepIs(then(assumed, Chainwork::giveUp), "p(r,s)", 10, "q(s)", NONE);
+        Calls threeOpen = then(LIMITED, work -> {
+            work.assume(0, 1);
+            work.assume(0, 1);
+            Due.assume(work, "r", "p(s,s)");
+        });
+        stepIs(threeOpen, "p(r,s)", 10, "q(s)", LESS);
+        stepIs(threeOpen, "p(s,r)", 10, "q(r)", NONE);
         stepIs(then(LIMITED, work -> Due.assume(work, "p(s,s)", "r")), "p(r,s)", 10, "q(s)", NONE);
         stepIs(then(LIMITED, work -> Due.assume(work, "a", "p(b,b)")), "p(r,s)", 10, "q(s)", NONE);
         stepIs(then(LIMITED, work -> Due.assume(work, "a", "p(b,b)")), "p(a,b)", 10, "q(b)", LESS);
@@ -307,6 +314,14 @@ final class SectionSentences extends Sentence {
             Due.step(work, 1, 7, "p(r,r)");
             Due.step(work, 1, 8, "p(s,s)");
         });
+        // what an instance puts for a variable does not stay for the next one
+        stepIs(then(LIMITED, law(7, "a", EQUAL, "r")), "p(r,s)", 10, "q(s)", LESS);
+        stepIs(then(then(LIMITED, law(6, "b", EQUAL, "s")), law(7, "b", EQUAL, "p(s,s)")), "p(r,s)", 10, "q(s)", LESS);
+        stepIs(then(then(LIMITED, law(6, "b", LESS, "s")), law(7, "r", LESS, "b")), "p(r,s)", 10, "q(s)", LESS);
+        answers(then(then(LIMITED, law(7, "a", LESS, "p(b,b)")), chain("p(p(r,s),a)", 10, "p(q(s),a)", 10, "p(q(s),a)")),
+            work -> work.wrong(0), 2);
+        answers(then(then(LIMITED, law(7, "a", LESS, "p(b,b)")), chain("p(p(r,s),p(s,r))", 10, "p(q(s),p(s,r))", 10, "p(q(s),q(r))")),
+            work -> work.wrong(0), NONE);
         stepIs(provedOne, "p(r,s)", 10, "q(s)", NONE);
         stepIs(then(provedOne, work -> work.lemma(9, 1)), "p(r,s)", 10, "q(s)", LESS);
     }
@@ -479,6 +494,13 @@ final class SectionSentences extends Sentence {
             work.end(50, 0);
         });
         answers(byAssumption, work -> work.lawAt(50, 3) * 100 + work.lawAt(50, 4), 110);
+        Calls grantedBefore = then(granted, work -> {
+            Due.begin(work, 1, "s");
+            Due.step(work, 1, 97, "p(r,s)");
+            work.relation(0);
+            work.lemma(51, 1);
+        });
+        answers(grantedBefore, work -> work.lawAt(51, 3) * 100 + work.lawAt(51, 4), 197);
         Calls byEqualTerms = then(then(LIMITED, law(0, "a", LESS, "a")), work -> {
             chain("p(p(s,s),s)", 10, "q(s)").on(work);
             work.lemma(50, 0);
