@@ -103,6 +103,7 @@ final class LawSentences extends Sentence {
         fails(FURNISHED, work -> work.condition(3, 0, 0));
         holds(FURNISHED, work -> work.condition(31, 0, 0));
         holds(then(FURNISHED, work -> work.condition(3, 0, 0)), work -> work.condition(3, 0, 2));
+        holds(TWENTY_LAWS, work -> work.condition(31, 0, 0) && work.laws() == 20);
     }
 
     private static void conditionsExceptions() {
