@@ -27,7 +27,7 @@ public final class Chainwork {
     private static final int TEXT_ROOM = 200;
     private static final int OUTPUT_ROOM = 512;
 
-    /** The one present state: undo and restore copy into it, so others may hold on to it. */
+    /** The present state: undo and restore copy into it. */
     private final State now = new State();
     private final State[] past = new State[CHANGES];
     private int pastNext = 0;
@@ -40,8 +40,8 @@ public final class Chainwork {
     private final int[] row = new int[MOST_SIZE];
     private final int[] otherRow = new int[MOST_SIZE];
     private final Instance instance = new Instance();
-    private final Checker checker = new Checker(now);
-    private final Search search = new Search(now);
+    private final Checker checker = new Checker();
+    private final Search search = new Search();
     private final Orders small = new Orders();
 
     public Chainwork() {
@@ -204,7 +204,7 @@ public final class Chainwork {
         checkNumber(name, NAMES - 1);
         checkIndex(chain, CHAINS);
         Law assumption = latestAssumption();
-        checker.judge(now.chains[chain], 1 << (now.assumptionCount - 1));
+        checker.judge(now, now.chains[chain], 1 << (now.assumptionCount - 1));
         Law proved = provedBy(now.chains[chain], name);
         checkRoomForLaw(name);
         if ((assumption.variables() & ~proved.variables()) != 0) {
@@ -220,7 +220,7 @@ public final class Chainwork {
     public int lemma(int name, int chain) throws IllegalArgumentException, IndexOutOfBoundsException, IllegalStateException {
         checkNumber(name, NAMES - 1);
         checkIndex(chain, CHAINS);
-        checker.judge(now.chains[chain], 0);
+        checker.judge(now, now.chains[chain], 0);
         Law proved = provedBy(now.chains[chain], name);
         checkRoomForLaw(name);
         keepForUndo();
@@ -310,7 +310,7 @@ public final class Chainwork {
         Term next = filled(register);
         checkRoomForLine(chain);
         Chain old = now.chains[chain];
-        if (!checker.goes(law, old.rows[old.count - 1], next, now.allOpen())) {
+        if (!checker.goes(now, law, old.rows[old.count - 1], next, now.allOpen())) {
             throw new IllegalArgumentException("the step is not right");
         }
         keepForUndo();
@@ -373,7 +373,7 @@ public final class Chainwork {
         checkIndex(to, REGISTERS);
         checkNumber(relation, MORE);
         checkNumber(most, MOST_STEPS);
-        int steps = search.run(filled(from), filled(to), relation, most);
+        int steps = search.run(now, filled(from), filled(to), relation, most);
         if (search.isFull) {
             throw new IllegalStateException("the 1001st term would be found");
         }
@@ -381,7 +381,7 @@ public final class Chainwork {
             throw new NoSuchElementException("there is no such chain");
         }
         keepForUndo();
-        now.chains[chain] = search.path(steps);
+        now.chains[chain] = search.path(now.signs, steps);
         return steps;
     }
 
@@ -538,13 +538,13 @@ public final class Chainwork {
 
     public int wrong(int chain) throws IndexOutOfBoundsException {
         checkIndex(chain, CHAINS);
-        checker.judge(now.chains[chain], now.allOpen());
+        checker.judge(now, now.chains[chain], now.allOpen());
         return checker.wrongLine;
     }
 
     public int relation(int chain) throws IndexOutOfBoundsException {
         checkIndex(chain, CHAINS);
-        checker.judge(now.chains[chain], now.allOpen());
+        checker.judge(now, now.chains[chain], now.allOpen());
         return checker.chainRelation;
     }
 
@@ -558,10 +558,10 @@ public final class Chainwork {
             return told.names[line];
         }
         if (what == 4) {
-            return checker.leastName(told.rows[line - 1], told.rows[line]);
+            return checker.leastName(now, told.rows[line - 1], told.rows[line]);
         }
         Law law = now.lawOrAssumption(told.names[line], now.allOpen());
-        if (law == null || !checker.goes(law, told.rows[line - 1], told.rows[line], now.allOpen())) {
+        if (law == null || !checker.goes(now, law, told.rows[line - 1], told.rows[line], now.allOpen())) {
             return NONE;
         }
         switch (what) {
@@ -647,7 +647,7 @@ public final class Chainwork {
         }
         small.limitToAssumptions(now);
         for (int i = 0; i < CHAINS; i++) {
-            checker.judge(now.chains[i], now.allOpen());
+            checker.judge(now, now.chains[i], now.allOpen());
             Law told = checker.chainLaw(now.chains[i], NONE);
             count += told != null && small.firstFailing(small.assumed, told, 0) != NONE ? 1 : 0;
         }
@@ -1227,7 +1227,6 @@ public final class Chainwork {
         /** A condition of 40 nodes, each a variable for which a term of 40 nodes stands. */
         private static final int CONDITION_ROOM = MOST_SIZE * MOST_SIZE;
 
-        private final State state;
         private final Instance instance = new Instance();
         private final Instance granting = new Instance();
         private final Term lesser = new Term(CONDITION_ROOM);
@@ -1240,12 +1239,8 @@ public final class Chainwork {
         int chainRelation = NONE;
         private int chainMarks = 0;
 
-        Checker(State state) {
-            this.state = state;
-        }
-
         /** Whether a term goes to another one by a law; then tells the first way. */
-        boolean goes(Law law, Term from, Term to, int counting) {
+        boolean goes(State state, Law law, Term from, Term to, int counting) {
             int ahead = sameAhead(from, to);
             int behind = sameBehind(from, to);
             for (int k = 0; k < 2; k++) {
@@ -1253,7 +1248,7 @@ public final class Chainwork {
                 for (place = 0; place <= ahead && place < from.size && place < to.size; place++) {
                     int left = from.size - from.ends[place];
                     boolean isAlone = left <= behind && left == to.size - to.ends[place];
-                    if (isAlone && isInstance(law, from, to) && isGranted(law, counting)) {
+                    if (isAlone && isInstance(law, from, to) && isGranted(state, law, counting)) {
                         return true;
                     }
                 }
@@ -1290,7 +1285,7 @@ public final class Chainwork {
         }
 
         /** Whether the instance's condition is granted; the marks tell what law granted it. */
-        private boolean isGranted(Law law, int counting) {
+        private boolean isGranted(State state, Law law, int counting) {
             granted = 0;
             if (!law.hasCondition()) {
                 return true;
@@ -1334,14 +1329,14 @@ public final class Chainwork {
         }
 
         /** Tells the first wrong line of a chain and, if it is right, its relation and its marks. */
-        void judge(Chain chain, int counting) {
+        void judge(State state, Chain chain, int counting) {
             wrongLine = NONE;
             chainMarks = 0;
             boolean isLess = false;
             boolean isMore = false;
             for (int i = 1; i < chain.count && wrongLine == NONE; i++) {
                 Law law = state.lawOrAssumption(chain.names[i], counting);
-                if (law != null && goes(law, chain.rows[i - 1], chain.rows[i], counting)) {
+                if (law != null && goes(state, law, chain.rows[i - 1], chain.rows[i], counting)) {
                     chainMarks |= law.mark() | granted;
                     isLess = isLess || relation == LESS;
                     isMore = isMore || relation == MORE;
@@ -1371,10 +1366,10 @@ public final class Chainwork {
         }
 
         /** The least name of a law or assumption by which the step would be right. */
-        int leastName(Term from, Term to) {
+        int leastName(State state, Term from, Term to) {
             for (int name = 0; name < NAMES + ASSUMPTIONS; name++) {
                 Law law = state.lawOrAssumption(name, state.allOpen());
-                if (law != null && goes(law, from, to, state.allOpen())) {
+                if (law != null && goes(state, law, from, to, state.allOpen())) {
                     return name;
                 }
             }
@@ -1388,7 +1383,6 @@ public final class Chainwork {
         private static final int MOST_MADE = 25;
         private static final int TABLE = 2048;
 
-        private final State state;
         private final Instance instance = new Instance();
         private final int[] pool = new int[MOST_FOUND * MOST_SIZE];
         private final int[] sizes = new int[MOST_FOUND];
@@ -1407,12 +1401,8 @@ public final class Chainwork {
         private int goalName = NONE;
         boolean isFull = false;
 
-        Search(State state) {
-            this.state = state;
-        }
-
         /** The least number of steps; NONE if so few do not do, or the search is full. */
-        int run(Term from, Term to, int relation, int most) {
+        int run(State state, Term from, Term to, int relation, int most) {
             start = from;
             goal = to;
             wanted = relation;
@@ -1432,14 +1422,14 @@ public final class Chainwork {
                 }
                 int end = count;
                 for (int i = level; i < end && steps < most && !isFound && !isFull; i++) {
-                    expand(i);
+                    expand(state, i);
                 }
                 level = end;
             }
             return NONE;
         }
 
-        private void expand(int index) {
+        private void expand(State state, int index) {
             currentIndex = index;
             current.load(pool, index * MOST_SIZE, sizes[index]);
             current.settle(state.signs);
@@ -1531,7 +1521,7 @@ public final class Chainwork {
         }
 
         /** The chain that was found. */
-        Chain path(int steps) {
+        Chain path(Sign[] signs, int steps) {
             int[] indexes = new int[MOST_STEPS];
             int index = currentIndex;
             for (int i = steps - 1; i >= 0 && i < MOST_STEPS; i--) {
@@ -1542,7 +1532,7 @@ public final class Chainwork {
             chain.add(start, NONE);
             for (int i = 1; i < steps && i < MOST_STEPS; i++) {
                 int at = indexes[i];
-                chain.add(new Term(pool, at * MOST_SIZE, sizes[at], state.signs), names[at]);
+                chain.add(new Term(pool, at * MOST_SIZE, sizes[at], signs), names[at]);
             }
             if (steps > 0) {
                 chain.add(goal, goalName);

@@ -37,6 +37,7 @@ public final class LanguageRules {
         wordsAreAllowed(text, code);
         exceptionsAreThrownPlainly(text);
         callsGoEightDeepAtMost(code);
+        constructorsHandOutNothing(code);
         System.out.println("LanguageRules: " + wrong + " wrong");
         if (wrong != 0) {
             System.exit(1);
@@ -65,6 +66,7 @@ public final class LanguageRules {
         }
         String all = Files.readString(document);
         String face = all.substring(all.indexOf("```java"), all.indexOf("```", all.indexOf("```java") + 3));
+        wordsOfTheFaceStandInTheSource(face, Files.readString(source).replaceAll("\\s+", " "));
         Set<String> due = new TreeSet<>();
         Matcher told = Pattern.compile("public (\\w+) (\\w+)\\(([^)]*)\\)([^;]*);").matcher(face);
         while (told.find()) {
@@ -88,6 +90,18 @@ public final class LanguageRules {
         }
         demand(due.equals(got), "the face is not that of the document:\n" + due + "\n" + got);
         demand(due.size() == 51, "promises 2 to 52 have a method each, not " + due.size());
+    }
+
+    /** The names of parameters and the values of constants, too; a head ends with a bracket, not a semicolon. */
+    private static void wordsOfTheFaceStandInTheSource(String face, String source) {
+        Matcher line = Pattern.compile("(?m)^ *((?:import|public) .*?)(;| \\{)$").matcher(face);
+        int lines = 0;
+        while (line.find()) {
+            boolean isHead = line.group(1).contains("(");
+            demand(source.contains(line.group(1) + (isHead ? " {" : line.group(2))), "not in the source: " + line.group(1));
+            lines++;
+        }
+        demand(lines == 57, "the face has an import, a class, 3 rows of constants, a constructor and 51 methods, not " + lines + " lines");
     }
 
     private static void membersAreAsRule1And5Want(List<Class<?>> classes) {
@@ -197,6 +211,22 @@ public final class LanguageRules {
         while (thrown.find()) {
             demand(plain.matcher(thrown.group().trim()).matches(), "rule 6: " + thrown.group());
         }
+    }
+
+    /** The object's own fields are made of constants alone, and "this" goes nowhere. */
+    private static void constructorsHandOutNothing(String code) {
+        for (String[] method : methods(code)) {
+            boolean isConstructor = Character.isUpperCase(method[0].charAt(0));
+            demand(!isConstructor || !Pattern.compile("\\bthis\\b(?![.(])").matcher(method[1]).find(), "rule 12: " + method[0]);
+            demand(!isConstructor || !method[1].contains("throw"), "rule 6: a throw in a constructor: " + method[0]);
+        }
+        Matcher field = Pattern.compile("(?m)^ {4,8}(?:private )?final [\\w\\[\\]]+ \\w+ = (new .*);$").matcher(code);
+        int fields = 0;
+        while (field.find()) {
+            demand(field.group(1).matches("new \\w+(\\([A-Z_]*\\)|\\[[A-Z_* ]+\\])"), "rule 12: " + field.group().trim());
+            fields++;
+        }
+        demand(fields > 30, "only " + fields + " fields were seen");
     }
 
     /** By names alone: what a method calls, and what these call. No cycle, so no recursion. */
